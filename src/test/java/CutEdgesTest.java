@@ -16,6 +16,8 @@ public final class CutEdgesTest {
                 CutEdgesTest::headOfEachWithoutACall);
         Check.test("not that of one with a call under way, at whatever stage",
                 CutEdgesTest::headOfOneWithACall);
+        Check.test("not that of one that stopped, at whatever stage",
+                CutEdgesTest::headOfOneThatStopped);
         Check.test("not that of one that WAITS", CutEdgesTest::headOfOneThatWaits);
         Check.test("the one of all HEADs with the greatest number (whosever it is)",
                 CutEdgesTest::greatestWhosever);
@@ -101,6 +103,35 @@ public final class CutEdgesTest {
             Check.equal("place" + what, log.placeOf(1), 4);
             Check.equal("answer" + what, log.answer(1), 5);
         }
+    }
+
+    /** Process 0 stops, process 1 goes on; place 2 goes to process 0 once it has announced. */
+    private static void headOfOneThatStopped() {
+        for (int steps = 0; steps <= 9; steps++) {
+            HelpedLog log = new HelpedLog(QUEUE, 2);
+            Check.begin(log, 0, 0, 5, steps);
+            for (int i = 0; i < 3; i++) {
+                Check.answerOf(log, 1, 0, 6 + i, 0);
+            }
+            String what = " behind " + steps + " steps";
+            headStays(what, log, steps < 8 ? 1 : 2);
+            Check.finish(log, 0);
+            Check.equal("place" + what, log.placeOf(0), steps == 0 ? 5 : 2);
+            Check.equal("answer" + what, log.answer(0), steps == 0 ? 4 : 1);
+        }
+        HelpedLog helped = Logs.helped();
+        Check.steps(helped, 0, 3);
+        Check.equal("stage of one that was helped", helped.stage(0), 7);
+        headStays(" at FINISH", helped, 1);
+        Check.finish(helped, 0);
+        Check.equal("place at FINISH", helped.placeOf(0), 2);
+    }
+
+    private static void headStays(String what, HelpedLog log, int head) {
+        Check.equal("a cut" + what, log.cut(), head - 1);
+        Check.equal("head" + what, log.head(0), head);
+        Check.equal("oldest" + what, log.oldest(), head);
+        Check.equal("head of the other" + what, log.head(1), log.end());
     }
 
     private static void headOfOneThatWaits() {

@@ -42,6 +42,8 @@ public final class StageEdgesTest {
     private static void lookAndAsk() {
         Check.test("LOOK q + 1 is next; behind the last process: ASK", StageEdgesTest::looks);
         Check.test("BEST is p's HEAD", StageEdgesTest::bestIsTheOwnHead);
+        Check.test("BEST is p's HEAD (not that of an earlier call)",
+                StageEdgesTest::bestIsNotAnEarlierOne);
         Check.test("if the HEAD of process q has a greater number than BEST",
                 StageEdgesTest::greatestHeadWherever);
         Check.test("the HEAD of process q, at that step", StageEdgesTest::headAtThatStep);
@@ -262,6 +264,22 @@ public final class StageEdgesTest {
                 Check.equal("place", log.placeOf(p), 5);
             }
         }
+    }
+
+    /** The node that process 0 had before is used again by process 1, which stops behind NUMBER. */
+    private static void bestIsNotAnEarlierOne() {
+        HelpedLog log = new HelpedLog(QUEUE, 2);
+        Check.fill(log, 0, 1);
+        Check.fill(log, 1, 1);
+        Check.equal("a cut", log.cut(), 2);
+        Check.fill(log, 1, 1);
+        Check.begin(log, 1, 0, 5, 7);
+        Check.equal("process 1 is at MOVE", log.stage(1), 6);
+        Check.equal("end", log.end(), 5);
+        log.call(0, 0, 6, 0);
+        Check.stages("process 0 goes by place 5", log, 0,
+                1, 1, 2, 3, 4, 5, 6, 2, 3, 4, 5, 6, 2, 7, NONE);
+        Check.equal("its place", log.placeOf(0), 6);
     }
 
     private static void greatestHeadWherever() {
